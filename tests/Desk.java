@@ -39,6 +39,6 @@ final class Desk {
     /** Shows the PAPER of a BOX from SHELF 5; how many names. */
     static int paper(HillBoxes x, int box, int... names) {
         row(x, 5, 1, names);
-        return x.paper(box, 5, 0, names.length);
+        return x.paper(box, 5, 0, Math.max(1, names.length));
     }
 }
