@@ -92,6 +92,13 @@ final class GroundTests {
         Due.be("thing when full", x.body(6), HillBoxes.FULL);
         Due.be("no KIND when full", x.body(1), HillBoxes.BAD);
         Due.be("the last body", x.ofBody(149, 0), 0);
+        Due.be("one behind the last", x.ofBody(150, 0), HillBoxes.VOID);
+        Due.be("a FINDER behind the last", x.leaves(150), HillBoxes.BAD);
+        Due.be("a BOX behind the last", x.down(150), HillBoxes.BAD);
+        Due.be("a THING behind the last", x.chain(150), HillBoxes.BAD);
+        Due.be("one far behind", x.ofBody(Integer.MAX_VALUE, 0), HillBoxes.VOID);
+        Due.be("kept behind the last", x.keep(0, 150), HillBoxes.BAD);
+        Due.be("acts behind the last", x.act(150, 0, 1), 0);
     }
 
     private static void finder() {
@@ -165,6 +172,13 @@ final class GroundTests {
         Due.be("LEAVE ahead of near", x.why(0, 1, 1, 0), 2);
         Desk.rule(x, "kind < 1", 1, 0);
         Due.be("HIDE ahead of LEAVE", x.why(0, 1, 1, 1), 1);
+        Desk.rule(x, "hour or not 1", 1, 0);
+        Due.be("HIDE without an hour", x.why(0, 1, 9, 1), 1);
+        Desk.rule(x, "1", 1, 0);
+        Desk.rule(x, "hour or day", 14, 0);
+        Due.be("LEAVE without an hour", x.why(0, 1, 1, 1), 2);
+        Desk.rule(x, "not hour", 14, 0);
+        Due.be("LEAVE, then near", x.why(0, 1, 1, 1), 3);
     }
 
     private static void whyOfNear() {

@@ -358,6 +358,11 @@ final class LogTests {
         Due.be("LOG 1", x.isFalse(1, 0), HillBoxes.BAD);
         Due.be("what 2", x.isFalse(0, 2), HillBoxes.BAD);
         Due.be("what -1", x.isFalse(0, -1), HillBoxes.BAD);
+        x.hide(0, 1, 0);
+        x.log(0, 5, 0, 1);
+        Due.be("of one too soon", x.isFalse(0, 1), 1);
+        Due.be("of one too soon, what 2", x.isFalse(0, 2), HillBoxes.BAD);
+        Due.be("of one too soon, what -1", x.isFalse(0, -1), HillBoxes.BAD);
     }
 
     private static long[] gone(HillBoxes x, int box) {

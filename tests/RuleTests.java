@@ -73,6 +73,8 @@ final class RuleTests {
         Due.be("rule 20", x.rule(0, 0), HillBoxes.FULL);
         Due.be("THE TAPE stays", x.count(7), 3);
         Due.be("bad ahead of FULL", x.rule(5, 0), HillBoxes.BAD);
+        x.finder(0);
+        Due.be("a RULE behind the last beside", x.rank(0, 0, 20, 0), HillBoxes.BAD);
         Due.be("the last rule says", x.says(0, -1, -1, 0), 3);
     }
 
@@ -309,6 +311,11 @@ final class RuleTests {
     private static void inForce() {
         HillBoxes x = new HillBoxes();
         Due.be("none", x.inForce(0, 0, 0), HillBoxes.NOT);
+        Desk.rule(new HillBoxes(), "1", 0, 0);
+        Due.be("none of another object", x.inForce(0, 0, 0), HillBoxes.NOT);
+        HillBoxes y = new HillBoxes();
+        Desk.rule(y, "1", 0, 0);
+        Due.be("the first", y.inForce(0, 0, 0), 0);
         int[] no = {-1, 5, 9, 20};
         for (int use : no) {
             Due.be("USE " + use, x.inForce(use, 0, 0), HillBoxes.BAD);
@@ -331,8 +338,10 @@ final class RuleTests {
         Due.be("of two the one made last", x.inForce(0, 8, 6), 1);
         Due.be("of three the one made last", x.inForce(0, 999, 999), 3);
         Due.be("on 5 as known later", x.inForce(0, 5, 999), 1);
+        Desk.rule(x, "5", 11, 0);
+        Due.be("of another USE, made later", x.inForce(0, 2, 999), 1);
         Due.be("of another USE", x.inForce(12, 0, 5), 2);
-        Due.be("of a USE without", x.inForce(11, 999, 999), HillBoxes.NOT);
+        Due.be("of a USE without", x.inForce(13, 999, 999), HillBoxes.NOT);
         Due.be("of USE 1", x.inForce(1, 999, 999), HillBoxes.NOT);
     }
 
@@ -473,6 +482,9 @@ final class RuleTests {
         x.hide(1, 3, 50);
         Due.be("not to the STEPS of a MANY", x.nearest(0, 5), 4);
         Due.be("to its first CELL", x.nearest(0, 51), 1);
+        Due.be("at its first CELL", x.nearest(0, 50), 0);
+        Desk.rule(x, "hour", 4, 0);
+        Due.be("shown without an hour", x.nearest(0, 5), HillBoxes.NOT);
         Desk.rule(x, "not mine", 4, 0);
         Due.be("not shown: its own", x.nearest(0, 9), 14);
         Due.be("shown to another", x.nearest(1, 50), 14);

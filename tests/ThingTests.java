@@ -289,6 +289,24 @@ final class ThingTests {
         x.leaves(6);
         Due.be("asked anew", x.asks(1, 2), 1);
         Due.be("taken anew", x.take(2), 1);
+
+        HillBoxes y = new HillBoxes();
+        y.body(6);
+        Due.be("a THING 0", y.ofBody(0, 2), 0);
+        Due.be("jumps of THING 0", y.jump(0, -1), 0);
+        HillBoxes z = new HillBoxes();
+        z.finder(0);
+        z.finder(0);
+        z.hide(1, 1, 30);
+        z.leaves(1);
+        z.asks(0, 2);
+        Due.be("FINDER 0 may take it over", z.taker(2), 0);
+        z.finder(30);
+        z.asks(3, 2);
+        z.leaves(3);
+        Due.be("FINDER 0 takes it over", z.take(2), 0);
+        Due.be("FINDER 0 is the KEEPER", z.ofBody(2, 1), 0);
+        Due.be("nobody asks then", z.taker(2), HillBoxes.NOT);
     }
 
     /** A FINDER 0, BOXES 1 (BOX), 2 (RIDDLE), 3 (NIGHT), 4 (BOX). */
@@ -328,7 +346,7 @@ final class ThingTests {
         x.log(0, 4, 1, 0);
         Desk.rule(x, "finds and misses", 3, 0);
         Due.row("by its LOGS", toPut(x), 1, 4, -1);
-        Desk.rule(x, "own or since or home or mine", 3, 0);
+        Desk.rule(x, "own or since or home or mine or hour", 3, 0);
         Due.row("by no FINDER", toPut(x), 0, -1);
         Due.be("i -2", x.toPut(-2), HillBoxes.BAD);
         Due.be("i MAX", x.toPut(Integer.MAX_VALUE), HillBoxes.BAD);

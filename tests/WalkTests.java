@@ -482,10 +482,13 @@ final class WalkTests {
         Due.be("of another USE", Desk.rule(x, "1", 1, 0), 2);
         Due.row("in force", ranks(x, 5, -1, 0), 0, 1, 0, 0);
         Due.row("beside", ranks(x, 5, 1, 0), 1, 0, 0, 0);
+        Desk.rule(x, "0", 2, 0);
+        Due.row("in force none, beside RULE 0", ranks(x, 5, 0, 0), 0, 1, 0, 0);
+        Desk.rule(x, "not mine", 2, 0);
         Due.row("places beside", ranks(x, 5, 1, 1), 1, 2, 2, 2);
         Due.row("the one in force", ranks(x, 5, 0, 1), 2, 1, 2, 2);
         Due.be("a RULE of another USE", x.rank(0, 5, 2, 0), BAD);
-        Due.be("no RULE", x.rank(0, 5, 3, 0), BAD);
+        Due.be("no RULE", x.rank(0, 5, 5, 0), BAD);
     }
 
     private static void rankOfFalse() {

@@ -332,11 +332,11 @@ public final class HillBoxes {
         b.nameCount = 0;
         b.paperSeen = true;
         for (int k = 0; k < n; k++) {
-            long name = s.elementOr((long) i + k, -1);
-            if (name < 0 || name >= MOST_BODIES || hills.finderAt((int) name) == null) {
+            int name = (int) s.elementOr((long) i + k, -1);
+            if (hills.finderAt(name) == null) {
                 break;
             }
-            b.names[b.nameCount] = (int) name;
+            b.names[b.nameCount] = name;
             b.nameCount++;
         }
         return b.nameCount;
@@ -344,7 +344,7 @@ public final class HillBoxes {
 
     public int join(int box, int what, int i) {
         Box b = hills.boxAt(box);
-        if (b == null || what < 0 || what > 2 || i < -1) {
+        if (b == null || what < 0 || what > 2) {
             return BAD;
         }
         int met = 0;
@@ -422,7 +422,7 @@ public final class HillBoxes {
 
     public int jump(int thing, int i) {
         Thing t = hills.thingAt(thing);
-        if (t == null || i < -1) {
+        if (t == null) {
             return BAD;
         }
         int met = 0;
@@ -479,9 +479,6 @@ public final class HillBoxes {
     }
 
     public int toPut(int i) {
-        if (i < -1) {
-            return BAD;
-        }
         int met = 0;
         for (int k = 0; k < hills.size; k++) {
             if (isToPut(hills.boxAt(k))) {
@@ -1523,19 +1520,19 @@ public final class HillBoxes {
 
         /** B. */
         private void readDenied(int open) {
-            if (token == WORD_TOKENS + NOT_WORD) {
-                if (mayOpen(open)) {
-                    readDenied(open + 1);
-                    emit(NOT_SO);
-                }
-                return;
+            int nots = 0;
+            while (nots <= MOST_OPEN && token == WORD_TOKENS + NOT_WORD && mayOpen(open + nots)) {
+                nots++;
             }
-            readSum(open);
+            readSum(open + nots);
             int op = token == '<' ? LESS : token == '=' ? SAME : token == '>' ? MORE : 0;
             if (op != 0 && fault < 0) {
                 advance();
-                readSum(open);
+                readSum(open + nots);
                 emit(op);
+            }
+            for (int i = 0; i < nots; i++) {
+                emit(NOT_SO);
             }
         }
 
@@ -1563,21 +1560,21 @@ public final class HillBoxes {
 
         /** O. */
         private void readOne(int open) {
+            int signs = 0;
+            while (signs <= MOST_OPEN && token == '-' && mayOpen(open + signs)) {
+                signs++;
+            }
             if (token == NUMBER || token == NAME) {
                 emit(values[tokenNumber]);
                 advance();
-            } else if (token == '-') {
-                if (mayOpen(open)) {
-                    readOne(open + 1);
-                    emit(NEGATED);
-                }
-            } else if (token == '(') {
-                if (mayOpen(open)) {
-                    readEither(open + 1);
-                    expect(')');
-                }
+            } else if (token == '(' && mayOpen(open + signs)) {
+                readEither(open + signs + 1);
+                expect(')');
             } else {
                 blame();
+            }
+            for (int i = 0; i < signs; i++) {
+                emit(NEGATED);
             }
         }
 
@@ -1789,16 +1786,21 @@ public final class HillBoxes {
             }
         }
 
-        /** Digits in order for the letters from one on: so SOLUTIONS are met in the order of their digits. */
-        private void search(int letter, int used, int soFar) {
-            if (letter >= LETTERS) {
+        /** Gives digits to the letters told from one on. */
+        private void search(int from, int used, int soFar) {
+            int letter = from;
+            while (letter < LETTERS && (letters >> letter & 1) == 0) {
+                letter++;
+            }
+            if (letter < LETTERS) {
+                tryDigits(letter, used, soFar);
+            } else {
                 meet(soFar);
-                return;
             }
-            if ((letters >> letter & 1) == 0) {
-                search(letter + 1, used, soFar);
-                return;
-            }
+        }
+
+        /** The least digit goes first: so SOLUTIONS are met in the order of their digits. */
+        private void tryDigits(int letter, int used, int soFar) {
             for (int d = 0; d < 10 && met < wanted; d++) {
                 if ((used >> d & 1) == 0) {
                     digits[letter] = d;
@@ -2165,13 +2167,19 @@ public final class HillBoxes {
         /** Tries each BOX left behind a row; rows come place by place in order, so of like ones the first stays. */
         private void extend(int count, int used, int cell, int time, int worth) {
             for (int i = 0; i < wishes && count < MOST_WISHES; i++) {
-                int left = (used >> i & 1) != 0 ? limit + 1 : timeBehind(i, cell, time);
-                if (left <= limit) {
+                if ((used >> i & 1) == 0) {
                     row[count] = i;
-                    int there = cellOf(i);
-                    compare(count + 1, worth + worths[i], left + hoursBetween(there, home));
-                    extend(count + 1, used | 1 << i, there, left, worth + worths[i]);
+                    goOnBehind(count + 1, used | 1 << i, timeBehind(i, cell, time), worth + worths[i]);
                 }
+            }
+        }
+
+        /** Goes on from the last BOX of a row that is done at a time. */
+        private void goOnBehind(int count, int used, int time, int worth) {
+            int cell = cellOf(row[count - 1]);
+            if (time <= limit) {
+                compare(count, worth, time + hoursBetween(cell, home));
+                extend(count, used, cell, time, worth);
             }
         }
 
