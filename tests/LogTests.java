@@ -330,6 +330,24 @@ final class LogTests {
         falses("one ahead of it", z, 0, 4, -1);
         z.log(2, 4, 9, 1);
         falses("one found ahead of it", z, 0, 0, -1);
+
+        HillBoxes w = ground();
+        Desk.paper(w, 4, 2);
+        w.log(1, 4, 20, 0);
+        w.log(1, 4, 22, 1);
+        w.log(1, 4, 10, 1);
+        w.log(1, 4, 5, 0);
+        falses("LOG 0 behind it", w, 2, 4, -1);
+        w.log(1, 4, 15, 1);
+        falses("one found behind it", w, 2, 0, -1);
+        falses("LOG 0 behind another", w, 4, 0, -1);
+        HillBoxes v = ground();
+        Desk.paper(v, 4, 2);
+        v.log(1, 4, 5, 0);
+        v.log(1, 4, 3, 1);
+        v.log(1, 4, 10, 1);
+        v.log(1, 4, 20, 0);
+        falses("LOG 0 ahead of it", v, 2, 4, -1);
     }
 
     private static void falseInOrder() {
@@ -419,6 +437,19 @@ final class LogTests {
         Due.row("two behind by number", gone(x, 4), 1, -2, -2);
         x.log(0, 4, 10, 0);
         Due.row("three behind by number", gone(x, 4), 2, 10, 10);
+
+        HillBoxes y = ground();
+        y.log(0, 4, 0, 0);
+        y.log(0, 4, 2, 0);
+        y.log(0, 4, 1, 0);
+        Due.row("from the first moment on", gone(y, 4), 2, 0, 0);
+        HillBoxes z = ground();
+        z.log(0, 4, 9, 1);
+        z.log(0, 4, 3, 1);
+        z.log(0, 4, 4, 0);
+        z.log(0, 4, 10, 0);
+        Due.row("LOG 0 is the latest found", gone(z, 4), 1, -2, -2);
+        Due.be("misses behind LOG 0", z.ofBody(4, 7), 1);
     }
 
     private static void chance() {

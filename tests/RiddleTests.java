@@ -180,6 +180,9 @@ final class RiddleTests {
         Due.row("letters C and F", solutions(ITSELF, 5, 0, 1, 0, ITSELF, 2, 0, 7, 0, X, 2, 0, 0, 0, Y, 5, 0, 0, 0), 1, 71);
         Due.row("all letters", solutions(ITSELF, 5, 0, 1, 0, ITSELF, 2, 0, 7, 0, ITSELF, 0, 0, 0, 0, ITSELF, 1, 0, 5, 0,
             ITSELF, 3, 0, 9, 0, ITSELF, 4, 0, 8, 0, X, 2, 0, 0, 0, Y, 5, 0, 0, 0), 1, 57981);
+        Due.row("second of a DIFFERENCE", solutions(DIFFERENCE, 0, 1, 7, 0, X, 0, 0, 0, 0, Y, NONE, 0, 0, 0), 3, 70, 81, 92);
+        Due.row("second of a SUM", solutions(SUM, 0, 1, 1, 0, X, 0, 0, 0, 0, Y, NONE, 0, 0, 0), 2, 1, 10);
+        Due.row("second of a PRODUCT", solutions(PRODUCT, 0, 1, 35, 0, X, 0, 0, 0, 0, Y, NONE, 0, 0, 0), 2, 57, 75);
         Due.row("letters of x and y alone", solutions(X, 3, 0, 8, 0, Y, 0, 0, 9, 0), 1, 98);
     }
 
@@ -189,6 +192,8 @@ final class RiddleTests {
         HillBoxes x = ground();
         Desk.riddle(x, 2, X, 0, 0, 9, 0, ITSELF, 0, 0, 4, 0, X, 0, 0, 3, 0, Y, NONE, 0, 2, 0);
         Due.be("its CELL", x.solved(2, 0), 21);
+        Desk.riddle(x, 2, Y, 0, 0, 9, 0, Y, 0, 0, 0, 0, ITSELF, 0, 0, 4, 0, X, NONE, 0, 3, 0);
+        Due.be("CELL by the last y", x.solved(2, 0), 43);
         // A is told with an x that counts no more: it stays told, and takes any digit that is left
         Due.row("a letter told so", solutions(X, 0, 0, 0, 0, ITSELF, 1, 0, 5, 0, X, 1, 0, 0, 0, Y, NONE, 0, 0, 0),
             9, 5, 15, 25, 35, 45, 65, 75, 85, 95);

@@ -157,6 +157,18 @@ final class RuleTests {
         fault("day kind", 4);
         fault("kind 123456", 5);
         fault((char) 0 + "1", 0);
+        fault("1" + (char) 0, 1);
+        fault("1 " + (char) 1, 2);
+        fault("dayz", 0);
+        fault("day{", 3);
+        fault("day`", 3);
+        fault("1/0", NONE);
+        fault("1:0", 1);
+        fault("9&0", 1);
+        fault("minf", 0);
+        fault("iff 1 : 2", 0);
+        fault("i 1 : 2", 0);
+        fault("notes 1", 0);
         fault("1" + (char) 255, 1);
         fault("1 " + (char) 160 + "1", 2);
         fault("day own", 4);

@@ -60,6 +60,8 @@ final class ThingTests {
         Due.be("bad ahead of FULL", x.tell(4, 1, 0), HillBoxes.BAD);
         Due.be("of the other", x.tell(5, 0, 0), 1);
         Due.be("jumps", x.jump(4, -1), 1);
+        Due.be("chain of one place", x.chain(4), 0);
+        Due.be("where it is", x.ofBody(4, 1), 0);
     }
 
     private static long[] jumps(HillBoxes x, int thing) {

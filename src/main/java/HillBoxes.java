@@ -246,8 +246,8 @@ public final class HillBoxes {
         for (int i = 0; i < hills.size; i++) {
             Box b = hills.boxAt(i);
             if (b != null && !b.isDown() && rules.shows(f, b)) {
-                int far = far(cell, b.cell);
-                least = least < 0 || far < least ? far : least;
+                int away = far(cell, b.cell);
+                least = least < 0 || away < least ? away : least;
             }
         }
         return least;
@@ -801,10 +801,10 @@ public final class HillBoxes {
         for (int i = 0; i < b.askerCount; i++) {
             Finder f = hills.finderAt(b.askers[i]);
             if (f != null && !f.hasLeft() && rules.letsHide(f, b.kind, b.liesNow())) {
-                int far = far(f.home, b.liesNow());
-                if (taker < 0 || far < least || far == least && f.number < taker) {
+                int away = far(f.home, b.liesNow());
+                if (taker < 0 || away < least || away == least && f.number < taker) {
                     taker = f.number;
-                    least = far;
+                    least = away;
                 }
             }
         }
@@ -972,6 +972,7 @@ public final class HillBoxes {
         }
     }
 
+    /** One that is hidden; where it lay ahead of its first MOVE stays known, and what its LOGS say is kept counted. */
     private static final class Box extends Body {
         final int hiddenOn;
         final int hiddenAtCell;
@@ -1701,6 +1702,8 @@ public final class HillBoxes {
         private final int[] firsts = new int[MOST_TELLINGS];
         private final int[] seconds = new int[MOST_TELLINGS];
         private final int[] numbers = new int[MOST_TELLINGS];
+        /** Of each the letter that gets its digit last. */
+        private final int[] lasts = new int[MOST_TELLINGS];
         private int told;
         /** The letters told, as bits. */
         private int letters;
@@ -1745,6 +1748,7 @@ public final class HillBoxes {
             firsts[told] = first;
             seconds[told] = second;
             numbers[told] = number;
+            lasts[told] = sort > DIFFERENCE ? first : Math.max(first, second);
             letters |= first == NO_LETTER ? 0 : 1 << first;
             letters |= sort > DIFFERENCE ? 0 : 1 << second;
             x = sort == X ? told : x;
@@ -1825,8 +1829,7 @@ public final class HillBoxes {
         /** Whether all TELLINGS hold of which this letter is the last one: those ahead have their digits. */
         private boolean allHoldAt(int letter) {
             for (int k = 0; k < told; k++) {
-                int last = sorts[k] <= DIFFERENCE ? Math.max(firsts[k], seconds[k]) : firsts[k];
-                if (last == letter && !holds(k)) {
+                if (lasts[k] == letter && !holds(k)) {
                     return false;
                 }
             }
