@@ -145,10 +145,10 @@ final class ActTests {
         Due.be("elsewhere", x.taken(5, 0), 6);
         x.row(0, 0, 3);
         x.keep(0, 1);
-        Due.be("a BODY for a ROW", x.element(0, 0), -12);
+        Due.be("a BODY for a ROW", x.put(0, 0, 1), -12);
         x.row(0, 0, 3);
         x.keep(0, -1);
-        Due.be("nothing for a ROW", x.element(0, 0), -11);
+        Due.be("nothing for a ROW", x.put(0, 0, 1), -11);
     }
 
     private static void row() {
@@ -162,15 +162,15 @@ final class ActTests {
         Due.be("n MIN", x.row(0, 0, Integer.MIN_VALUE), -14);
         Due.be("sort ahead of n", x.row(0, 5, -1), BAD);
         Due.be("shelf ahead of n", x.row(6, 0, -1), BAD);
-        Due.be("nothing is there still", x.element(0, 0), -11);
+        Due.be("nothing is there still", x.put(0, 0, 1), -11);
         for (int sort = 0; sort <= 4; sort++) {
             Due.be("sort " + sort, x.row(0, sort, 60), 1);
             Due.be("0 at first", x.element(0, 59), 0);
-            Due.be("no place 60", x.element(0, 60), -13);
+            Due.be("no place 60", x.put(0, 60, 1), -13);
             x.put(0, 59, 1);
         }
         Due.be("n 0", x.row(0, 0, 0), 1);
-        Due.be("no place 0", x.element(0, 0), -13);
+        Due.be("no place 0", x.put(0, 0, 1), -13);
         x.row(0, 3, 3);
         x.put(0, 1, 7);
         x.row(0, 3, 3);
@@ -197,18 +197,33 @@ final class ActTests {
         Due.be("not elsewhere", x.element(0, 1), 0);
     }
 
+    /** The host's refusals are no answers of element(): elements may be -11 to -13 themselves. */
     private static void element() {
         HillBoxes x = ground();
         Due.be("SHELF 6", x.element(6, 0), Long.MIN_VALUE);
         Due.be("SHELF -1", x.element(-1, 0), Long.MIN_VALUE);
-        Due.be("nothing", x.element(0, 0), -11);
+        Due.be("nothing", x.element(0, 0), Long.MIN_VALUE);
+        Due.be("nothing, place -1", x.element(0, -1), Long.MIN_VALUE);
         x.keep(0, 0);
-        Due.be("a BODY", x.element(0, -1), -12);
-        x.row(0, 3, 3);
-        Due.be("place -1", x.element(0, -1), -13);
-        Due.be("place 3", x.element(0, 3), -13);
+        Due.be("a BODY", x.element(0, 0), Long.MIN_VALUE);
+        Due.be("a BODY, place -1", x.element(0, -1), Long.MIN_VALUE);
+        for (int sort = 0; sort <= 4; sort++) {
+            x.row(0, sort, 3);
+            Due.be("place -1", x.element(0, -1), Long.MIN_VALUE);
+            Due.be("place 3", x.element(0, 3), Long.MIN_VALUE);
+            Due.be("place MAX", x.element(0, Integer.MAX_VALUE), Long.MIN_VALUE);
+            Due.be("place MIN", x.element(0, Integer.MIN_VALUE), Long.MIN_VALUE);
+            Due.be("place 2", x.element(0, 2), 0);
+        }
+        Desk.row(x, 0, 3, -11, -12, -13);
+        Due.row("elements like refusals", elements(x, 0, 3), -11, -12, -13);
         x.put(0, 0, Long.MIN_VALUE);
         Due.be("the least long", x.element(0, 0), Long.MIN_VALUE);
+        x.row(0, 3, 0);
+        Due.be("a ROW of none", x.element(0, 0), Long.MIN_VALUE);
+        x.row(0, 3, 2);
+        x.keep(0, -1);
+        Due.be("nothing again", x.element(0, 0), Long.MIN_VALUE);
     }
 
     private static void elementsOfSorts() {
@@ -237,7 +252,7 @@ final class ActTests {
         Desk.row(x, 0, 2, 1, 2, 3, 4);
         Desk.row(x, 1, 2, 5, 6, 7);
         Due.be("shift", x.shift(0, 1, 1, 0, 2), 2);
-        Due.row("it came", elements(x, 1, 4), 2, 3, 7, -13);
+        Due.row("it came", elements(x, 1, 4), 2, 3, 7, Long.MIN_VALUE);
         Due.row("it stays", elements(x, 0, 4), 1, 2, 3, 4);
         Due.be("all", x.shift(1, 0, 0, 1, 3), 3);
         Due.row("all came", elements(x, 0, 4), 1, 2, 3, 7);

@@ -1094,10 +1094,7 @@ final class Model {
     }
 
     long element(int shelf, int i) {
-        if (!shelf(shelf)) {
-            return Long.MIN_VALUE;
-        }
-        return refusal(shelf, i) < 0 ? refusal(shelf, i) : ((long[]) shelves[shelf])[i];
+        return !shelf(shelf) || refusal(shelf, i) < 0 ? Long.MIN_VALUE : ((long[]) shelves[shelf])[i];
     }
 
     int shift(int shelf, int i, int other, int j, int n) {

@@ -644,11 +644,7 @@ public final class HillBoxes {
 
     public long element(int shelf, int i) {
         Shelf s = shelfAt(shelf);
-        if (s == null) {
-            return Long.MIN_VALUE;
-        }
-        int refusal = s.refusalOf(i);
-        return refusal != 0 ? refusal : s.elementOr(i, 0);
+        return s == null ? Long.MIN_VALUE : s.elementOr(i, Long.MIN_VALUE);
     }
 
     public int shift(int shelf, int i, int other, int j, int n) {
