@@ -217,8 +217,19 @@ final class GroundEdgesTests {
         Due.be("how many", x.count(0), 150);
         Due.be("the first", x.ofBody(0, 0), 7);
         Due.be("the last", x.ofBody(149, 0), 6);
-        Due.be("behind the last", x.ofBody(150, 0), VOID);
-        Due.be("ahead of the first", x.ofBody(-1, 0), VOID);
+        for (int none : new int[] {-1, 150, 151, Integer.MAX_VALUE, Integer.MIN_VALUE}) {
+            Due.be("BODY " + none, x.ofBody(none, 0), VOID);
+            Due.be("FINDER " + none, x.leaves(none), BAD);
+            Due.be("BOX " + none, x.down(none), BAD);
+            Due.be("THING " + none, x.chain(none), BAD);
+            Due.be("the act of " + none, x.act(none, 0, 5), 0);
+            Due.be("RANK of " + none, x.rank(none, 0, -1, 0), BAD);
+        }
+        HillBoxes y = new HillBoxes();
+        y.body(6);
+        Due.be("a THING is the first", y.ofBody(0, 2), 0);
+        Due.be("its CHAIN", y.chain(0), 0);
+        Due.be("its JUMPS", y.jump(0, -1), 0);
     }
 
     /** The 150th may be of any sort, and does all that others do. */
@@ -734,6 +745,11 @@ final class GroundEdgesTests {
         x.step(0);
         x.step(9);
         Due.be("its CELL and a STEP are near, where it would lie is not", x.why(0, 3, 1, 1), 0);
+        HillBoxes y = new HillBoxes();
+        y.finder(0);
+        y.hide(0, 1, 0);
+        y.step(9);
+        Due.be("one STEP: its CELL is near, where it would lie is not", y.why(0, 3, 1, 1), 0);
         x.step(1);
         Due.be("where it would lie is near", x.why(0, 3, 59, 1), 3);
         Due.be("STEPS told are not of another KIND", x.why(0, 1, 59, 1), 0);
@@ -766,6 +782,7 @@ final class GroundEdgesTests {
                 x.step(cells[i]);
             }
             x.owner(cells[at], at == 4 ? 9 : at);
+            Due.be("STEPS are asked for MANY alone", x.why(0, 1, 0, 1), at == 0 ? 2 : 0);
             Due.be("without a LEAVE at place " + at, x.why(0, 3, 0, 1), 2);
             Due.be("hide without a LEAVE", x.hide(0, 3, 0), -22);
             Desk.rule(x, "1", at == 4 ? 19 : 10 + at, 0);

@@ -300,6 +300,11 @@ final class LogEdgesTests {
         Due.be("of like ones the lesser LOG's, again", x.first(4), 1);
         x.log(0, 4, 0, 1);
         Due.be("ahead of its hiding, though that can't be", x.first(4), 0);
+        HillBoxes y = ground(0);
+        y.log(2, 4, 5, 1);
+        y.log(3, 4, 6, 1);
+        y.log(1, 4, 5, 1);
+        Due.be("LOG 0", y.first(4), 2);
     }
 
     /** "of LOGS found that COUNT (on their DAY, AS KNOWN TODAY)". */
@@ -480,6 +485,22 @@ final class LogEdgesTests {
         y.log(1, 4, 10, 0);
         y.log(1, 4, 10, 0);
         falses("none ahead of it", y, 0, 0, -1);
+        for (int ofLog0 = 0; ofLog0 <= 1; ofLog0++) {
+            HillBoxes z = ground(0);
+            Desk.paper(z, 4, 0);
+            z.log(2, 4, 12, ofLog0);
+            z.log(1, 4, 10, 1);
+            z.log(2, 4, 8, 0);
+            z.log(2, 4, 20, 1 - ofLog0);
+            falses("LOG 0 is the next one behind it", z, 1, ofLog0 == 0 ? 4 : 0, -1);
+            HillBoxes w = ground(0);
+            Desk.paper(w, 4, 0);
+            w.log(2, 4, 8, ofLog0);
+            w.log(1, 4, 10, 1);
+            w.log(2, 4, 12, 0);
+            w.log(2, 4, 3, 1 - ofLog0);
+            falses("LOG 0 is the next one ahead of it", w, 1, ofLog0 == 0 ? 4 : 0, -1);
+        }
     }
 
     /** "(Without a name it was seen all the same.)"; without PAPER nobody is missed on it. */
@@ -552,6 +573,11 @@ final class LogEdgesTests {
         for (int what = -1; what <= 2; what++) {
             Due.be("what " + what, x.isFalse(0, what), what == 0 ? 0 : what == 1 ? -1 : BAD);
         }
+        x.hide(0, 1, 0);
+        x.log(0, 5, 0, 1);
+        for (int what = -1; what <= 2; what++) {
+            Due.be("what " + what + " of one by 2", x.isFalse(0, what), what == 0 ? 2 : what == 1 ? 1 : BAD);
+        }
     }
 
     // ---- GONE
@@ -593,6 +619,11 @@ final class LogEdgesTests {
             y.log(0, 4, 0, 0);
         }
         gone("hidden on DAY 0, missed in HOUR 0", y, 2, 0, 0);
+        HillBoxes z = ground(0);
+        for (int i = 0; i < 3; i++) {
+            z.log(0, 4, i, 0);
+        }
+        gone("missed in HOURS 0, 1, 2", z, 2, 0, 0);
     }
 
     /** "(of like ones by number)". */
@@ -627,6 +658,17 @@ final class LogEdgesTests {
         gone("a find ahead changes nothing", x, 1, NOT, NOT);
         x.log(0, 4, 14, 1);
         gone("a find behind all", x, 0, NOT, NOT);
+        HillBoxes y = ground(0);
+        y.log(0, 4, 9, 1);
+        y.log(0, 4, 3, 1);
+        for (int i = 0; i < 3; i++) {
+            y.log(0, 4, 5, 0);
+            gone("between LOG 1 and LOG 0, the latest found", y, 0, NOT, NOT);
+        }
+        for (int i = 0; i < 3; i++) {
+            y.log(0, 4, 10 + i, 0);
+        }
+        gone("behind LOG 0", y, 2, 9, 10);
     }
 
     /** "GONE: what 1, 2 of one that is DOUBTED: NOT". */

@@ -27,6 +27,8 @@ final class RandomRunsTests {
     private final StringBuilder told = new StringBuilder();
     private int today;
     private boolean agrees = true;
+    /** One argument in so many is drawn from those at the bounds of something. */
+    private int tameness = 40;
 
     public static void main(String[] args) throws Exception {
         for (String face : FACE) {
@@ -67,8 +69,12 @@ final class RandomRunsTests {
         next(2);
         x = new HillBoxes();
         model = new Model();
-        int kind = run % 8;
+        int kind = run % 10;
+        tameness = kind == 8 ? 4 : 40;
         people(kind);
+        if (kind == 9) {
+            fill(next(6));
+        }
         while (calls < CALLS && agrees) {
             step(kind);
         }
@@ -83,10 +89,13 @@ final class RandomRunsTests {
             call("finder", next(60));
         }
         call("body", 6);
+        for (int i = 0; kind == 0 && i < 20; i++) {
+            call("owner", next(60), next(3));
+        }
         if (next(2) == 0) {
             feedRule(next(2) == 0 ? "1" : "0", 0, 0);
         }
-        for (int i = 0; i < 3 + next(kind == 5 ? 30 : 6); i++) {
+        for (int i = 0; i < 3 + next(kind == 5 ? 40 : kind == 4 ? 12 : 6); i++) {
             if (next(4) == 0) {
                 call("step", next(60));
                 call("step", next(60));
@@ -117,22 +126,83 @@ final class RandomRunsTests {
             ranks(die);
         } else if (kind == 6) {
             things(die);
-        } else {
+        } else if (kind == 7) {
             shelves(die);
+        } else if (kind == 8) {
+            drawn(FACE[next(FACE.length)]);
+        } else {
+            fullOnes();
         }
+    }
+
+    /** Fills something up to a few less than it holds. */
+    private void fill(int what) throws Exception {
+        int spare = next(4);
+        if (what == 0) {
+            for (int i = model.count(0); i < 150 - spare; i++) {
+                call("body", 6 * next(2));
+            }
+        } else if (what == 1) {
+            for (int i = 0; i < 300 - spare; i++) {
+                call("log", pick(7), pick(8), next(24 * (today + 1)), next(2));
+            }
+        } else if (what == 2) {
+            call("hide", pick(7), 4, next(60));
+            for (int i = 0; i < 200 - spare; i++) {
+                if (i % 24 == 0) {
+                    call("days", 1);
+                }
+                call("move", pick(4), next(60), i % 24);
+            }
+        } else if (what == 3) {
+            for (int i = 0; i < 20 - spare; i++) {
+                feedRule("" + next(9), next(5), next(3));
+            }
+        } else if (what == 4) {
+            for (int i = 0; i < 160 / 4 - spare; i++) {
+                call("feed", 4, next(2) == 0 ? 0x20203b31 : 0x302b3120);
+            }
+        } else {
+            things(9);
+            for (int i = 0; i < 12 - spare; i++) {
+                call("log", pick(7), pick(8), next(24 * (today + 1)), 1);
+                call("tell", pick(6), next(Math.max(1, model.count(5))), next(2));
+            }
+        }
+    }
+
+    /** What may be full, and what is asked of it. */
+    private void fullOnes() throws Exception {
+        drawn(List.of("body:K", "finder:c", "step:c", "hide:fkc", "move:bch", "log:fbmz", "rule:ud", "feed:nx", "tell:tlz",
+            "asks:fb", "leaves:f", "wish:bWh", "isFalse:lz", "gone:bw", "join:bwi", "jump:ti", "chain:t", "rank:fdrz",
+            "chance:z", "liesAt:bdh", "ofBody:aw", "count:i", "inForce:udd", "act:awx", "first:b", "days:N")
+            .get(next(26)));
     }
 
     private void rules(int die) throws Exception {
         if (die < 5) {
-            feedRule(text(), next(2) == 0 ? next(5) : 10 + next(10), next(3) == 0 ? next(1000) : next(today + 2));
+            feedRule(text(), next(2) == 0 ? next(5) : 10 + next(3), next(3) == 0 ? next(1000) : next(today + 2));
         } else if (die < 6) {
             feedRule(spoiled(text()), next(5), 0);
         } else if (die < 8) {
-            drawn("says:uSSw");
+            saysOfAll();
+        } else if (next(2) == 0) {
+            call("step", next(60));
+            call("why", pick(7), 1 + next(5), next(60), next(2));
+            call("hide", pick(7), 1 + next(5), next(60));
         } else {
             drawn(List.of("why:fkcw", "hide:fkc", "nearest:fc", "toPut:i", "inForce:udd", "first:b", "rank:fdrz",
                 "taker:b").get(next(8)));
         }
+    }
+
+    private void saysOfAll() throws Exception {
+        int what = next(2);
+        call("says", 0, -1, -1, what);
+        call("says", 1, pick(7), 1 + next(5), what);
+        call("says", 3, -1, pick(8), what);
+        call("says", 4, pick(7), pick(8), what);
+        drawn("says:uSSw");
     }
 
     private void riddles(int die) throws Exception {
@@ -219,6 +289,9 @@ final class RandomRunsTests {
         } else if (die < 8) {
             drawn(List.of("tell:tlz", "tell:tlz", "tell:tlz", "jump:ti", "chain:t", "ofBody:aw").get(next(6)));
         } else {
+            if (next(8) == 0) {
+                call("finder", next(60));
+            }
             drawn(List.of("asks:fb", "asks:fb", "taker:b", "take:b", "leaves:f", "finder:c", "toPut:i", "putAll:")
                 .get(next(next(6) == 0 ? 8 : 6)));
         }
@@ -301,14 +374,15 @@ final class RandomRunsTests {
         String letters = face.substring(colon + 1);
         long[] args = new long[letters.length()];
         for (int i = 0; i < args.length; i++) {
-            args[i] = next(40) == 0 ? wild() : draw(letters.charAt(i));
+            args[i] = next(tameness) == 0 ? wild() : draw(letters.charAt(i));
         }
         call(face.substring(0, colon), args);
     }
 
     private int wild() {
-        int[] all = {-1, -2, 0, 1, 6, 7, 8, 24, 59, 60, 61, 150, 999, 1000, 1440, Integer.MAX_VALUE, Integer.MIN_VALUE,
-            Integer.MAX_VALUE - 4};
+        int[] all = {-1, -2, 0, 1, 2, 3, 4, 5, 6, 7, 8, 9, 10, 12, 19, 20, 23, 24, 39, 40, 41, 48, 49, 59, 60, 61, 99, 100,
+            101, 149, 150, 199, 299, 300, 999, 1000, 1439, 1440, 24 * today + 23, 24 * today + 24, Integer.MAX_VALUE,
+            Integer.MIN_VALUE, Integer.MAX_VALUE - 4};
         return all[next(all.length)];
     }
 

@@ -134,6 +134,13 @@ final class RuleEdgesTests {
         Due.be("RULES still", x.count(6), 20);
         Due.be("the 19th says", x.says(0, -1, -1, 0), 15);
         Due.be("the 20th is in force", x.inForce(19, 0, 0), 19);
+        HillBoxes y = new HillBoxes();
+        y.finder(0);
+        for (int i = 0; i < 20; i++) {
+            Desk.rule(y, "1", 2, 0);
+        }
+        Due.be("beside the 20th", y.rank(0, 0, 19, 0), 0);
+        Due.be("beside a 21st", y.rank(0, 0, 20, 0), BAD);
     }
 
     /** "then the FAULT, which empties THE TAPE". */
@@ -313,7 +320,7 @@ final class RuleEdgesTests {
 
     /** "words (letters a .. z, as many as stand there)". */
     private static void wordsAsManyAsStandThere() {
-        faults("day", NONE, "days", 0, "da", 0, "dayday", 0, "dayor", 0, "day or day", NONE, "notday", 0, "Day", 0,
+        faults("dayz", 0, "zday", 0, "dayzday", 0, "day", NONE, "days", 0, "da", 0, "dayday", 0, "dayor", 0, "day or day", NONE, "notday", 0, "Day", 0,
             "daY", 0, "day1", 3, "1day", 1, "z", 0, "a", 0, "orday", 0, "ifs 1 : 2", 0, "iff", 0, "unles 1 : 2", 0,
             "`day", 0, "day{", 3, "1 + kinds", 4, "andand", 0);
     }
@@ -556,6 +563,16 @@ final class RuleEdgesTests {
             Due.be("a LOG in HOUR 23 COUNTS", x.first(1), 0);
             Due.be("day and hour of USE " + use + " behind it", x.says(use, use == 3 ? -1 : 0, 1, 0), 300);
         }
+        for (int use : new int[] {0, 1, 3, 4, 10}) {
+            Desk.rule(x, use == 0 ? "hour * 15" : "hour", use, 0);
+        }
+        Due.be("SHOWN, by no hour", x.nearest(0, 0), NOT);
+        Due.be("DOWN, by no hour", x.toPut(-1), 0);
+        Due.be("HIDE, by no hour", x.why(0, 1, 30, 1), 1);
+        Desk.rule(x, "1", 1, 0);
+        Due.be("NEAR, by no hour", x.why(0, 1, 0, 1), 0);
+        x.owner(0, 0);
+        Due.be("a LEAVE, by no hour", x.why(0, 1, 0, 1), 2);
     }
 
     /** "since DAYS since the FINDER came, age DAYS since the BOX was hidden": 0 on that DAY; "by d". */
@@ -651,6 +668,12 @@ final class RuleEdgesTests {
         counts("a LOG ahead of the MOVE", x, 1, "home = 9", true);
         x.down(1);
         Due.be("PUT DOWN", x.says(4, 0, 1, 0), 9);
+        x.finder(59);
+        Due.be("a BOX at CELL 0, from CELL 59", x.says(4, 4, 3, 0), 14);
+        Desk.rule(x, "home", 1, 0);
+        Due.be("HIDE at CELL 0, from CELL 59", x.why(4, 1, 0, 1), 3);
+        Due.be("HIDE at CELL 59, from CELL 59", x.why(4, 1, 59, 1), 1);
+        Due.be("HIDE in says, from CELL 59", x.says(1, 4, 1, 0), 0);
     }
 
     /** "paper 1 if the FINDER's name is on its PAPER, mine 1 if the FINDER is its KEEPER". */

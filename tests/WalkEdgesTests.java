@@ -511,6 +511,9 @@ final class WalkEdgesTests {
         Due.be("1 way of 35 is less", bound(7, 3, 0), 3);
         // 15 of 30: large numbers of ways
         Due.be("half of 30, 7 gone", bound(30, 15, 7), 19);
+        // 3 of 29 gone: of 4 gone 4 ways of 30 leave one of them
+        Due.be("all but one", bound(30, 29, 3), 4);
+        Due.be("all but one, 28 gone", bound(30, 29, 28), 29);
     }
 
     /** "of n above 30: BIG". */
