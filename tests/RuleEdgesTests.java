@@ -705,6 +705,8 @@ final class RuleEdgesTests {
         x.days(1);
         Desk.rule(x, "own or since or age or finds or misses or hour or home or paper or mine or kind", 0, 0);
         Due.be("NEAR, but for day", x.says(0, -1, -1, 0), 0);
+        Desk.rule(x, "15 * (kind or own or since or home or mine or age or hour)", 0, 0);
+        Due.be("NEAR in why: no KIND, no FINDER, no BOX", x.why(0, 4, 59, 1), 0);
         Desk.rule(x, "day", 0, 0);
         Due.be("NEAR: day", x.says(0, -1, -1, 0), 10);
         Desk.rule(x, "own or since or hour or home or paper or mine", 3, 0);

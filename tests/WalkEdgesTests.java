@@ -511,6 +511,8 @@ final class WalkEdgesTests {
         Due.be("1 way of 35 is less", bound(7, 3, 0), 3);
         // 15 of 30: large numbers of ways
         Due.be("half of 30, 7 gone", bound(30, 15, 7), 19);
+        // 4 of 9 looked at, 1 gone: of 6 gone 6 ways of 126 (none leaves 4 there), of 5 gone 20 and 1
+        Due.be("a way that can't be is none", bound(9, 4, 1), 5);
         // 3 of 29 gone: of 4 gone 4 ways of 30 leave one of them
         Due.be("all but one", bound(30, 29, 3), 4);
         Due.be("all but one, 28 gone", bound(30, 29, 28), 29);
